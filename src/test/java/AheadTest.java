@@ -10,6 +10,7 @@ final class AheadTest {
         foreseeOrders();
         adviseWrong();
         advise();
+        adviseFirstAndLastSpan();
         adviseTies();
         adviseOnlyOrder();
         Check.end("AheadTest");
@@ -79,17 +80,7 @@ final class AheadTest {
     }
 
     private static void fallsAndIsPutUpWithinAnHour() {
-        TrolleyGang x = Rings.frozenAndWorn();
-        for (int number = 0; number < 6; number++) {
-            x.bus(1, false);
-        }
-        x.park(4);
-        x.park(5);
-        x.order(2);
-        x.pass(1);
-        for (int number = 0; number < 6; number++) {
-            x.park(number);
-        }
+        TrolleyGang x = Rings.withOneWorkWhileUp();
         x.setSwan(4, 2);
         Check.due("foresee(1, 5)", x.foresee(1, 5), 0);
         Check.holds("a span that is put up in the hour in which it came down is not down behind it", x.falls(2) > 1);
@@ -192,6 +183,14 @@ final class AheadTest {
         Check.due("advise(11) for as many coins", y.advise(11), -1);
         y.setFare(false, 3);
         Check.due("advise(11) for more coins", y.advise(11), 2);
+    }
+
+    private static void adviseFirstAndLastSpan() {
+        for (int span : new int[] {0, 23}) {
+            TrolleyGang x = Rings.withDown(span);
+            x.bus((span + 23) % 24, true);
+            Check.due("advise(4), span " + span + " is down", x.advise(4), span);
+        }
     }
 
     private static void adviseTies() {

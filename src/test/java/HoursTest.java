@@ -12,6 +12,7 @@ final class HoursTest {
         busBringsSpanDown();
         gangGoes();
         gangMends();
+        gangMendsJustEnough();
         gangPutsUp();
         worksWhileUpCount();
         stepsInTheirOrder();
@@ -263,6 +264,28 @@ final class HoursTest {
         Check.due("works in all", y.gang(4), 3);
     }
 
+    private static void gangMendsJustEnough() {
+        // worn by 50, then by 5, 2, 1 and 1 under four buses: 59 less 30 is less than 30
+        TrolleyGang x = new TrolleyGang();
+        x.setCold(0, 3);
+        x.setCold(1, 3);
+        x.setCold(2, 3);
+        Rings.swans(x, 2, 2);
+        x.pass(1);
+        for (int number = 0; number < 4; number++) {
+            x.bus(1, number == 1);
+        }
+        x.pass(1);
+        Check.due("worn ahead of the gang", x.span(2, 0), 59);
+        for (int number = 0; number < 4; number++) {
+            x.park(number);
+        }
+        x.order(2);
+        x.pass(1);
+        Check.due("worn behind a work", x.span(2, 0), 29);
+        Check.due("done by one work", x.gang(2), 0);
+    }
+
     private static void gangPutsUp() {
         TrolleyGang x = Rings.withDown(0);
         x.order(0);
@@ -282,19 +305,9 @@ final class HoursTest {
     }
 
     private static void worksWhileUpCount() {
-        TrolleyGang x = Rings.frozenAndWorn();
-        for (int number = 0; number < 6; number++) {
-            x.bus(1, false);
-        }
-        x.park(4);
-        x.park(5);
-        x.order(2);
-        // 75 and four buses by 5 each, less 30
-        x.pass(1);
+        TrolleyGang x = Rings.withOneWorkWhileUp();
         Check.due("worn behind the first work", x.span(2, 0), 65);
-        for (int number = 0; number < 6; number++) {
-            x.park(number);
-        }
+        Check.due("works", x.gang(3), 1);
         // a swan by 25, two buses by 5 each: down; the second work puts it up in the same hour
         Rings.swans(x, 2, 1);
         Check.due("worn by 50", x.span(2, 0), 50);

@@ -39,4 +39,24 @@ final class Rings {
         }
         return x;
     }
+
+    /**
+     * The hour is 4, span 2 is worn by 65, and the gang did one work there while it was up; a swan
+     * there and the two buses that come there next, by 5 each, bring it down in one hour.
+     */
+    static TrolleyGang withOneWorkWhileUp() {
+        TrolleyGang x = frozenAndWorn();
+        for (int number = 0; number < 6; number++) {
+            x.bus(1, false);
+        }
+        x.park(4);
+        x.park(5);
+        x.order(2);
+        // 75 and four buses by 5 each, less 30
+        x.pass(1);
+        for (int number = 0; number < 6; number++) {
+            x.park(number);
+        }
+        return x;
+    }
 }
