@@ -294,8 +294,10 @@ public final class TrolleyGang {
         return is ? 1 : 0;
     }
 
+    // Remainders of the hour are taken by floorMod, so that they are places in a table even when an object
+    // is used on till its hour wraps around.
     private static boolean isNightAt(int hour) {
-        int ofDay = hour % HOURS_OF_DAY;
+        int ofDay = Math.floorMod(hour, HOURS_OF_DAY);
         return ofDay <= 5 || ofDay >= 20;
     }
 
@@ -532,11 +534,11 @@ public final class TrolleyGang {
         private void letHourGoBy(Tables tables) {
             boolean isNight = isNightAt(hour);
             if (isNight) {
-                wires.freeze(tables.colds[hour % COLD_HOURS]);
+                wires.freeze(tables.colds[Math.floorMod(hour, COLD_HOURS)]);
             } else {
                 wires.thaw();
             }
-            letSwanFly(tables.swans[hour % SWAN_HOURS]);
+            letSwanFly(tables.swans[Math.floorMod(hour, SWAN_HOURS)]);
             int fare = tables.fare(isNight);
             for (int number = 0; number < busCount; number++) {
                 drive(buses[number], fare);

