@@ -11,6 +11,7 @@ final class AheadEdgesTest {
         fallsNow();
         fallsAtMost96();
         fallsAtAnySpan();
+        fallsWithOrders();
         foreseeRefusesHours();
         foreseeRefusesWhat();
         foreseeBothWrong();
@@ -130,6 +131,19 @@ final class AheadEdgesTest {
                 Check.due("falls(" + span + ") by swans of the hour " + hour, x.falls(span), hour + 37);
             }
         }
+    }
+
+    /** "if nothing is done": no call is made, and the gang goes on with its orders */
+    private static void fallsWithOrders() {
+        TrolleyGang x = Rings.worn(0, 74);
+        x.setSwan(0, 0);
+        x.setSwan(1, 0);
+        Check.due("falls(0) without an order", x.falls(0), 2);
+        x.order(0);
+        // 69, 64, 34 and 4 behind four works; 29 and 54 by the swans of the hours 12 and 13, 79 and 100 of 24 and 25
+        Check.due("falls(0) with an order", x.falls(0), 26);
+        x.pass(25);
+        Check.due("falls(0) an hour ahead", x.falls(0), 1);
     }
 
     /** "Throws IllegalArgumentException if hours is not 1 to 72" */
@@ -303,7 +317,7 @@ final class AheadEdgesTest {
         Check.due("works done at it still", x.gang(3), 1);
     }
 
-    /** "has its only order now": a full list of others does not hinder it */
+    /** "have its only order now": a full list of others does not hinder it */
     private static void adviseOnlyOrder() {
         TrolleyGang x = Rings.worn(0, 100);
         x.bus(23, true);

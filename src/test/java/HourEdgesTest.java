@@ -2,6 +2,7 @@
 final class HourEdgesTest {
     public static void main(String[] args) {
         frostByNight();
+        frostAheadOfBuses();
         frostByDay();
         frostAtDawnAndDusk();
         swanAtSpanThatIsUp();
@@ -44,6 +45,20 @@ final class HourEdgesTest {
                 Check.due("all frost", x.count(7), 24 * due);
             }
         }
+    }
+
+    /** The steps follow one another: the frost of an hour is there ahead of its buses, and 2 less by day. */
+    private static void frostAheadOfBuses() {
+        TrolleyGang x = Rings.wornAndFrozen(12, 100, 0);
+        x.setCold(3, 3);
+        x.bus(0, false);
+        x.pass(1);
+        Check.due("worn by the frost of this hour", x.span(1, 0), 2);
+        TrolleyGang y = Rings.wornAndFrozen(12, 100, 2);
+        y.pass(3);
+        y.bus(0, false);
+        y.pass(1);
+        Check.due("worn by the frost that is left by day", y.span(1, 0), 1);
     }
 
     /** "by day each one 2 less (at least 0)" */
@@ -505,6 +520,19 @@ final class HourEdgesTest {
         Check.due("no order left", x.gang(2), 0);
         Check.due("coins behind", x.pass(1), 0);
         Check.due("one can come again", x.order(21), 1);
+        // all are down: two works each
+        TrolleyGang y = Rings.allDown();
+        for (int span = 0; span < 6; span++) {
+            y.order(span);
+        }
+        for (int work = 0; work < 12; work++) {
+            Check.due("orders behind " + work + " works", y.gang(2), 6 - work / 2);
+            Check.due("the first one behind " + work + " works", y.gang(1), work / 2);
+            Check.due("works at it behind " + work, y.gang(3), work % 2);
+            y.pass(1);
+        }
+        Check.due("no order left, all put up", y.gang(2), 0);
+        Check.due("put up", y.gang(5), 6);
     }
 
     /** "The hour is 1 greater." */
