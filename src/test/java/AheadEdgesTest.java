@@ -113,6 +113,8 @@ final class AheadEdgesTest {
             x.pass(1);
             Check.due("worn by 88", x.span(span, 0), 88);
             Check.due("worn by 88, falls(" + span + ")", x.falls(span), 96);
+            x.order((span + 5) % 24);
+            Check.due("worn by 88, an order elsewhere", x.falls(span), 96);
             x.pass(1);
             Check.due("an hour later", x.falls(span), 95);
             Rings.pass(x, 94);

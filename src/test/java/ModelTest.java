@@ -3,7 +3,8 @@ import java.util.Random;
 /** Long mixed runs of calls, 512 on each object, every answer held against Model; the same runs each time. */
 final class ModelTest {
     private static final int RUNS = 400;
-    private static final int CALLS = 512;
+    // the digest at the end of a run is the 512th call
+    private static final int CALLS = 511;
 
     interface Answer {
         String get();

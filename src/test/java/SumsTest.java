@@ -17,11 +17,7 @@ final class SumsTest {
         Rings.swans(x, 20, 1);
         Check.dueMean("mean() of 31", x.mean(), 31 / 24.0);
         Check.changesNothing(x, "mean()", x::mean);
-        TrolleyGang y = new TrolleyGang();
-        for (int span = 0; span < 24; span++) {
-            Rings.swans(y, span, 4);
-        }
-        Check.dueMean("mean() of all down", y.mean(), 100.0);
+        Check.dueMean("mean() of all down", Rings.allDown().mean(), 100.0);
     }
 
     private static void digestOfNew() {
